@@ -497,7 +497,7 @@ public final class GloveReply {
         return theDesk.reply(glove, kept, person) == theDesk.dearTo(person);
     }
 
-    // ---- searches; the last argument of each recursion bounds its depth
+    // ---- searches; the last argument of each of them bounds its depth
 
     /** The least row of so many more hands by which the doing comes, behind the row so far; NONE. */
     private static int firstRow(Desk desk, int glove, int kept, int doing, int row, int hands) {
@@ -1070,10 +1070,11 @@ public final class GloveReply {
         private int first;
 
         Tally() {
-            start();
+            count = 0;
+            first = NONE;
         }
 
-        final void start() {
+        void start() {
             count = 0;
             first = NONE;
         }

@@ -11,6 +11,7 @@ public final class ActsTest {
         wash();
         washRefused();
         day();
+        dayOfFour();
         undo();
         undoOfForgotten();
         undoLeavesTheRest();
@@ -170,6 +171,21 @@ public final class ActsTest {
         Due.is("12 a day of none", x.day(), 0);
         Due.is("12 the day", x.about(2), 2);
         Due.is("12 an act, too", x.about(4), 4);
+    }
+
+    private static void dayOfFour() {
+        GloveReply x = Due.desk("GP110P210P310P410P510L100L100L100L100");
+        Due.is("12 none of four", x.day(), 0);
+        Due.is("6 none of four is worn", x.about(3), 0);
+        for (int glove = 0; glove <= 3; glove++) {
+            x.wear(glove, glove + 1);
+            Due.is("6 worn ones, as bits", x.about(3), (2 << glove) - 1);
+            Due.is("7 the first one wears none", x.person(0, 3), Due.NONE);
+        }
+        Due.is("12 all four", x.day(), 4);
+        for (int glove = 0; glove <= 3; glove++) {
+            Due.is("12 each its wearer's own", x.glove(glove, 3), glove + 2);
+        }
     }
 
     private static void undo() {
