@@ -19,7 +19,7 @@ public final class ActsTest {
     }
 
     /** A glove with room for one that was told the doing, and people whose own are 4 and 7. */
-    private static GloveReply keeping(int kind, int doing) {
+    private static Counted keeping(int kind, int doing) {
         return Due.desk("GP410P710L1" + kind + doing);
     }
 
@@ -27,7 +27,7 @@ public final class ActsTest {
         for (int doing = 0; doing <= 7; doing++) {
             Due.is("9 plain keeps " + doing, keeping(0, doing).wear(0, 0), doing);
         }
-        GloveReply x = Due.desk("GP110P210L303");
+        Counted x = Due.desk("GP110P210L303");
         hands(x, 0, 0, 1);
         Due.is("9 plain keeps 312", x.wear(0, 0), 2);
         Due.is("9 who wears it", x.glove(0, 4), 0);
@@ -39,7 +39,7 @@ public final class ActsTest {
         for (int doing = 0; doing <= 7; doing++) {
             Due.is("9 mitten keeps " + doing, keeping(1, doing).wear(0, 0), due[doing]);
         }
-        GloveReply x = Due.desk("GP110P610L313");
+        Counted x = Due.desk("GP110P610L313");
         hands(x, 0, 0, 1);
         Due.is("9 mitten keeps 316", x.wear(0, 0), 2);
         Due.is("9 a mitten keeps the doing itself", x.glove(0, 3), 316);
@@ -49,7 +49,7 @@ public final class ActsTest {
         for (int doing = 0; doing <= 7; doing++) {
             Due.is("9 split keeps " + doing, keeping(2, doing).wear(0, 0), doing);
         }
-        GloveReply x = Due.desk("GP110P210L323");
+        Counted x = Due.desk("GP110P210L323");
         hands(x, 0, 0);
         Due.is("9 split keeps 31", x.wear(0, 1), 3);
         x.takeOff(0);
@@ -63,14 +63,14 @@ public final class ActsTest {
             Due.is("9 shy keeps " + doing + " on 4", keeping(3, doing).wear(0, 0), doing == 4 ? 0 : doing);
             Due.is("9 shy keeps " + doing + " on 7", keeping(3, doing).wear(0, 1), doing == 7 ? 0 : doing);
         }
-        GloveReply x = Due.desk("GP110P210L331");
+        Counted x = Due.desk("GP110P210L331");
         hands(x, 0, 1);
         Due.is("9 shy keeps 12 on 1", x.wear(0, 0), 2);
         x.undo();
         Due.is("9 shy keeps 12 on 2", x.wear(0, 1), 0);
     }
 
-    private static void hands(GloveReply x, int glove, int... people) {
+    private static void hands(Counted x, int glove, int... people) {
         for (int person : people) {
             x.wear(glove, person);
             x.takeOff(glove);
@@ -78,7 +78,7 @@ public final class ActsTest {
     }
 
     private static void wearRefused() {
-        GloveReply x = Due.desk("GP110P210L303L100");
+        Counted x = Due.desk("GP110P210L303L100");
         refusedWear(x, 2, 0, Due.UNKNOWN);
         refusedWear(x, -1, 0, Due.UNKNOWN);
         refusedWear(x, 0, 2, Due.UNKNOWN);
@@ -94,14 +94,14 @@ public final class ActsTest {
         Due.is("9 the other two are free", x.wear(1, 1), 0);
     }
 
-    private static void refusedWear(GloveReply x, int glove, int person, int due) {
-        String before = Due.state(x);
+    private static void refusedWear(Counted x, int glove, int person, int due) {
+        String before = Due.look(x);
         Due.is("9 wear(" + glove + ", " + person + ")", x.wear(glove, person), due);
-        Due.holds("9 a refused wear changes nothing", before.equals(Due.state(x)));
+        Due.holds("9 a refused wear changes nothing", before.equals(Due.look(x)));
     }
 
     private static void takeOff() {
-        GloveReply x = Due.desk("GP110P210L303L205L107L200");
+        Counted x = Due.desk("GP110P210L303L205L107L200");
         x.wear(0, 0);
         Due.is("10 takeOff(0)", x.takeOff(0), 2);
         Due.is("10 it lies", x.glove(0, 4), Due.NONE);
@@ -124,7 +124,7 @@ public final class ActsTest {
     }
 
     private static void takeOffRefused() {
-        GloveReply x = Due.desk("GP110P210L303");
+        Counted x = Due.desk("GP110P210L303");
         Due.is("10 nobody wears it", x.takeOff(0), Due.LATE);
         Due.is("10 takeOff(-1)", x.takeOff(-1), Due.UNKNOWN);
         Due.is("10 takeOff(1)", x.takeOff(1), Due.UNKNOWN);
@@ -134,7 +134,7 @@ public final class ActsTest {
     }
 
     private static void wash() {
-        GloveReply x = Due.desk("GP110P210L303");
+        Counted x = Due.desk("GP110P210L303");
         hands(x, 0, 0, 1);
         Due.is("11 wash of 312", x.wash(0), 2);
         Due.is("11 it keeps 31", x.glove(0, 3), 31);
@@ -147,7 +147,7 @@ public final class ActsTest {
     }
 
     private static void washRefused() {
-        GloveReply x = Due.desk("GP110P210L303L100");
+        Counted x = Due.desk("GP110P210L303L100");
         Due.is("11 keeps nothing", x.wash(1), Due.LATE);
         Due.is("11 wash(2)", x.wash(2), Due.UNKNOWN);
         Due.is("11 wash(-1)", x.wash(-1), Due.UNKNOWN);
@@ -158,7 +158,7 @@ public final class ActsTest {
     }
 
     private static void day() {
-        GloveReply x = Due.desk("GP110P210P310L303L205L107");
+        Counted x = Due.desk("GP110P210P310L303L205L107");
         x.wear(2, 0);
         x.wear(0, 1);
         Due.is("12 two are taken off", x.day(), 2);
@@ -174,7 +174,7 @@ public final class ActsTest {
     }
 
     private static void dayOfFour() {
-        GloveReply x = Due.desk("GP110P210P310P410P510L100L100L100L100");
+        Counted x = Due.desk("GP110P210P310P410P510L100L100L100L100");
         Due.is("12 none of four", x.day(), 0);
         Due.is("6 none of four is worn", x.about(3), 0);
         for (int glove = 0; glove <= 3; glove++) {
@@ -189,32 +189,32 @@ public final class ActsTest {
     }
 
     private static void undo() {
-        GloveReply x = Due.desk("GP110P210P310L303L205L107");
-        String[] states = new String[8];
-        states[0] = Due.state(x);
+        Counted x = Due.desk("GP110P210P310L303L205L107");
+        String[] looks = new String[8];
+        looks[0] = Due.look(x);
         x.wear(0, 0);
-        states[1] = Due.state(x);
+        looks[1] = Due.look(x);
         x.takeOff(0);
-        states[2] = Due.state(x);
+        looks[2] = Due.look(x);
         x.wash(0);
-        states[3] = Due.state(x);
+        looks[3] = Due.look(x);
         x.wear(1, 1);
-        states[4] = Due.state(x);
+        looks[4] = Due.look(x);
         x.wear(2, 2);
-        states[5] = Due.state(x);
+        looks[5] = Due.look(x);
         x.day();
-        states[6] = Due.state(x);
+        looks[6] = Due.look(x);
         x.wash(1);
         for (int left = 6; left >= 0; left--) {
             Due.is("13 undo()", x.undo(), left);
-            Due.holds("13 as it was before act " + left, states[left].equals(Due.state(x)));
+            Due.holds("13 as it was before act " + left, looks[left].equals(Due.look(x)));
         }
         Due.is("13 none left", x.undo(), Due.LATE);
-        Due.holds("13 a refused undo changes nothing", states[0].equals(Due.state(x)));
+        Due.holds("13 a refused undo changes nothing", looks[0].equals(Due.look(x)));
     }
 
     private static void undoOfForgotten() {
-        GloveReply x = Due.desk("GP110L101");
+        Counted x = Due.desk("GP110L101");
         for (int act = 1; act <= 40; act++) {
             x.day();
             Due.is("13 acts after " + act, x.about(4), Math.min(act, 14));
@@ -235,7 +235,7 @@ public final class ActsTest {
     }
 
     private static void undoLeavesTheRest() {
-        GloveReply x = Due.desk("GP110L101");
+        Counted x = Due.desk("GP110L101");
         x.wear(0, 0);
         x.see(0, 0, 1);
         x.seed(5L);

@@ -18,7 +18,7 @@ public final class ChancesTest {
     }
 
     /** A plain glove does 5; what is dear to the two is 5, worth so much to each. */
-    private static GloveReply bidders(int worth, int otherWorth) {
+    private static Counted bidders(int worth, int otherWorth) {
         return Due.desk("GP15" + worth + "P25" + otherWorth + "L105");
     }
 
@@ -65,7 +65,7 @@ public final class ChancesTest {
         return gains;
     }
 
-    private static void bids(GloveReply x, int many, int first) {
+    private static void bids(Counted x, int many, int first) {
         String of = x.person(0, 2) + ", " + x.person(1, 2);
         Due.is("25 bids(0, 0, 1, 0) of " + of, x.bids(0, 0, 1, 0), many);
         Due.is("25 bids(0, 0, 1, 1) of " + of, x.bids(0, 0, 1, 1), first);
@@ -78,7 +78,7 @@ public final class ChancesTest {
         bids(Due.desk("GP149P259L105"), 9, 1);
         bids(Due.desk("GP159P219L115"), 9, 1);
         bids(Due.desk("GP559P259L135"), 9, 1);
-        GloveReply x = bidders(9, 0);
+        Counted x = bidders(9, 0);
         Due.is("25 the other way round", x.bids(0, 1, 0, 0), 9);
         Due.is("25 the first one the other way round", x.bids(0, 1, 0, 1), 1);
         x = Due.desk("GP159P259L105L305");
@@ -87,7 +87,7 @@ public final class ChancesTest {
     }
 
     private static void bidsRefused() {
-        GloveReply x = bidders(9, 9);
+        Counted x = bidders(9, 9);
         Due.is("25 bids(1, 0, 1, 0)", x.bids(1, 0, 1, 0), Due.UNKNOWN);
         Due.is("25 bids(-1, 0, 1, 0)", x.bids(-1, 0, 1, 0), Due.UNKNOWN);
         Due.is("25 bids(0, 2, 1, 0)", x.bids(0, 2, 1, 0), Due.UNKNOWN);
@@ -106,7 +106,7 @@ public final class ChancesTest {
     }
 
     private static void lost() {
-        GloveReply x = Due.desk("GP110P210P210L100");
+        Counted x = Due.desk("GP110P210P210L100");
         lost(x, 0, 0, 0, 1, 1);
         lost(x, 0, 1, 0, 0, 1);
         lost(x, 0, 1, 1, 1, 3);
@@ -145,14 +145,14 @@ public final class ChancesTest {
         lost(Due.desk("GP110P110P110P110L100"), 0, 2, 3, 0, 1);
     }
 
-    private static void lost(GloveReply x, int person, int doing, int n, int above, int below) {
+    private static void lost(Counted x, int person, int doing, int n, int above, int below) {
         String call = "26 lost(0, " + person + ", " + doing + ", " + n;
         Due.is(call + ", true)", x.lost(0, person, doing, n, true), above);
         Due.is(call + ", false)", x.lost(0, person, doing, n, false), below);
     }
 
     private static void lostRefused() {
-        GloveReply x = Due.desk("GP110P210L100");
+        Counted x = Due.desk("GP110P210L100");
         for (int half = 0; half <= 1; half++) {
             boolean upper = half == 0;
             Due.is("26 lost(1, ..)", x.lost(1, 0, 1, 1, upper), Due.UNKNOWN);
@@ -173,7 +173,7 @@ public final class ChancesTest {
     }
 
     private static void seed() {
-        GloveReply x = new GloveReply();
+        Counted x = new Counted();
         Due.is("27 0 at first", x.seed(5L), 0L);
         Due.is("27 what it was", x.seed(Long.MIN_VALUE), 5L);
         Due.is("27 the least one", x.seed(Long.MAX_VALUE), Long.MIN_VALUE);
@@ -187,7 +187,7 @@ public final class ChancesTest {
     }
 
     /** How often the acts of a second object please, when they follow the seed as the document tells. */
-    private static int byActs(GloveReply y, long seed, int m) {
+    private static int byActs(Counted y, long seed, int m) {
         int pleased = 0;
         long x = seed;
         for (int time = 0; time < m; time++) {
@@ -214,10 +214,10 @@ public final class ChancesTest {
         Due.holds("28 some please", total > 50);
         Due.is("28 with people alone", weeks(Due.desk("GP110"), Due.desk("GP110"), 1L, 30), 0);
         Due.is("28 with gloves alone", weeks(Due.desk("GL101"), Due.desk("GL101"), 1L, 30), 0);
-        Due.is("28 with nothing", weeks(new GloveReply(), new GloveReply(), 0L, 3), 0);
+        Due.is("28 with nothing", weeks(new Counted(), new Counted(), 0L, 3), 0);
     }
 
-    private static int weeks(GloveReply x, GloveReply alike, long seed, int m) {
+    private static int weeks(Counted x, Counted alike, long seed, int m) {
         x.seed(seed);
         int answer = x.weeks(m);
         long left = seed;
@@ -233,8 +233,8 @@ public final class ChancesTest {
 
     private static void weeksWhileSomeAreWorn() {
         for (int time = 0; time < 30; time++) {
-            GloveReply x = Due.desk(FOUR);
-            GloveReply y = Due.desk(FOUR);
+            Counted x = Due.desk(FOUR);
+            Counted y = Due.desk(FOUR);
             x.wear(time % 4, time % 3);
             y.wear(time % 4, time % 3);
             weeks(x, y, time * 991L, 30);
@@ -242,7 +242,7 @@ public final class ChancesTest {
     }
 
     private static void weeksRefused() {
-        GloveReply x = Due.desk(FOUR);
+        Counted x = Due.desk(FOUR);
         x.seed(3L);
         Due.is("28 weeks(0)", x.weeks(0), Due.BAD);
         Due.is("28 weeks(31)", x.weeks(31), Due.BAD);

@@ -17,7 +17,7 @@ public final class DeskTest {
     }
 
     private static void newObject() {
-        GloveReply x = new GloveReply();
+        Counted x = new Counted();
         for (int what = 0; what <= 6; what++) {
             Due.is("1 about(" + what + ") at first", x.about(what), 0);
         }
@@ -32,7 +32,7 @@ public final class DeskTest {
     }
 
     private static void write() {
-        GloveReply x = new GloveReply();
+        Counted x = new Counted();
         Due.is("2 write(0)", x.write(0), 1);
         Due.is("2 write(255)", x.write(255), 2);
         Due.is("2 write(-1)", x.write(-1), Due.BAD);
@@ -50,7 +50,7 @@ public final class DeskTest {
     }
 
     private static void wipe() {
-        GloveReply x = Due.told("GP11");
+        Counted x = Due.told("GP11");
         Due.is("3 wipe()", x.wipe(), 4);
         Due.is("3 wipe() again", x.wipe(), 0);
         Due.is("3 length", x.about(6), 0);
@@ -117,7 +117,7 @@ public final class DeskTest {
     }
 
     private static void fault(String text, int due) {
-        GloveReply x = Due.told(text);
+        Counted x = Due.told(text);
         Due.is("4 fault() of " + text, x.fault(), due);
         Due.is("4 fault() changes nothing: " + text, x.about(6), text.length());
         if (due != Due.NONE) {
@@ -126,7 +126,7 @@ public final class DeskTest {
     }
 
     private static void desk() {
-        GloveReply x = Due.told("GP129L315");
+        Counted x = Due.told("GP129L315");
         Due.is("5 desk()", x.desk(), 11);
         Due.is("5 the text stays", x.about(6), 9);
         Due.is("5 the text is still none with a fault", x.fault(), Due.NONE);
@@ -139,7 +139,7 @@ public final class DeskTest {
     }
 
     private static void deskAnew() {
-        GloveReply x = Due.desk("GP129P340L315L220");
+        Counted x = Due.desk("GP129P340L315L220");
         x.wear(0, 1);
         x.day();
         x.wear(1, 0);
@@ -169,7 +169,7 @@ public final class DeskTest {
     }
 
     private static void deskRefused() {
-        GloveReply x = Due.desk("GP129P340L315L220");
+        Counted x = Due.desk("GP129P340L315L220");
         x.wear(0, 1);
         x.keep(0);
         Due.tell(x, "GP10");
@@ -180,7 +180,7 @@ public final class DeskTest {
     }
 
     private static void about() {
-        GloveReply x = Due.desk("GP129P340P560L315L220L100");
+        Counted x = Due.desk("GP129P340P560L315L220L100");
         Due.is("6 people", x.about(0), 3);
         Due.is("6 gloves", x.about(1), 3);
         x.wear(2, 0);
@@ -202,7 +202,7 @@ public final class DeskTest {
     }
 
     private static void person() {
-        GloveReply x = Due.desk("GP129L315P740L220");
+        Counted x = Due.desk("GP129L315P740L220");
         Due.is("7 own of 0", x.person(0, 0), 1);
         Due.is("7 dear to 0", x.person(0, 1), 2);
         Due.is("7 worth to 0", x.person(0, 2), 9);
@@ -222,7 +222,7 @@ public final class DeskTest {
     }
 
     private static void glove() {
-        GloveReply x = Due.desk("GP129L315P740L220L103");
+        Counted x = Due.desk("GP129L315P740L220L103");
         Due.is("8 room of 0", x.glove(0, 0), 3);
         Due.is("8 kind of 0", x.glove(0, 1), 1);
         Due.is("8 how many 0 keeps", x.glove(0, 2), 1);

@@ -21,7 +21,7 @@ public final class HandsTest {
     }
 
     private static void does() {
-        GloveReply x = Due.desk(FOUR);
+        Counted x = Due.desk(FOUR);
         for (int person = 1; person <= 4; person++) {
             Due.is("14 the first hand meets what is kept", x.does(0, 1, person), 5);
         }
@@ -44,13 +44,13 @@ public final class HandsTest {
         Due.is("14 shy by 21", x.does(3, 2, 21), 2);
         x.wear(1, 0);
         Due.is("14 what else they wear does not matter", x.does(0, 2, 12), 1);
-        GloveReply five = Due.desk("GP110P210P310P410P510L300");
+        Counted five = Due.desk("GP110P210P310P410P510L300");
         Due.is("14 nothing is kept", five.does(0, 1, 5), 0);
         Due.is("14 the fifth person", five.does(0, 2, 55), 5);
     }
 
     private static void doesRefused() {
-        GloveReply x = Due.desk(FOUR);
+        Counted x = Due.desk(FOUR);
         int[][] bad = {{0, 0}, {0, 1}, {5, 11111}, {-1, 1}, {Integer.MAX_VALUE, 1}, {Integer.MIN_VALUE, 0},
             {1, 0}, {1, 5}, {1, 9}, {1, 11}, {1, -1}, {1, Integer.MIN_VALUE}, {1, Integer.MAX_VALUE},
             {2, 1}, {2, 10}, {2, 51}, {2, 15}, {2, 111}, {2, -11}, {2, 1 + (1 << 30)},
@@ -68,7 +68,7 @@ public final class HandsTest {
     }
 
     private static void comes() {
-        GloveReply x = Due.desk(FOUR);
+        Counted x = Due.desk(FOUR);
         comes(x, 0, 5, 1, 1);
         comes(x, 0, 1, 2, 11);
         comes(x, 0, 2, 2, 21);
@@ -86,20 +86,20 @@ public final class HandsTest {
         comes(x, 3, 7, Due.NONE, Due.NONE);
         x.wear(2, 0);
         comes(x, 0, 1, 2, 11);
-        GloveReply three = Due.desk("GP110P210P310P410P510L327");
+        Counted three = Due.desk("GP110P210P310P410P510L327");
         comes(three, 0, 5, 4, 5111);
         comes(three, 0, 6, Due.NONE, Due.NONE);
         comes(Due.desk("GL107"), 0, 7, Due.NONE, Due.NONE);
         comes(Due.desk("GP710L137"), 0, 7, Due.NONE, Due.NONE);
     }
 
-    private static void comes(GloveReply x, int glove, int doing, int hands, int row) {
+    private static void comes(Counted x, int glove, int doing, int hands, int row) {
         Due.is("15 comes(" + glove + ", " + doing + ", 0)", x.comes(glove, doing, 0), hands);
         Due.is("15 comes(" + glove + ", " + doing + ", 1)", x.comes(glove, doing, 1), row);
     }
 
     private static void comesRefused() {
-        GloveReply x = Due.desk(FOUR);
+        Counted x = Due.desk(FOUR);
         Due.is("15 comes(4, 1, 0)", x.comes(4, 1, 0), Due.UNKNOWN);
         Due.is("15 UNKNOWN comes before BAD", x.comes(-1, 0, 2), Due.UNKNOWN);
         Due.is("15 doing 0", x.comes(0, 0, 0), Due.BAD);
@@ -133,20 +133,20 @@ public final class HandsTest {
         rounds("GP110P210P310L120", 6, 123);
         rounds("GP110P210L331", 2, 12);
         rounds("GP110P110L330", 0, Due.NONE);
-        GloveReply x = Due.desk(FOUR);
+        Counted x = Due.desk(FOUR);
         x.wear(1, 3);
         Due.is("16 what else they wear does not matter", x.rounds(0, 0), 18);
         Due.is("16 nor for the first one", x.rounds(0, 1), 1234);
     }
 
     private static void rounds(String text, int many, int first) {
-        GloveReply x = Due.desk(text);
+        Counted x = Due.desk(text);
         Due.is("16 rounds(0, 0) of " + text, x.rounds(0, 0), many);
         Due.is("16 rounds(0, 1) of " + text, x.rounds(0, 1), first);
     }
 
     private static void roundsRefused() {
-        GloveReply x = Due.desk(FOUR);
+        Counted x = Due.desk(FOUR);
         Due.is("16 rounds(4, 0)", x.rounds(4, 0), Due.UNKNOWN);
         Due.is("16 UNKNOWN comes before BAD", x.rounds(-1, 2), Due.UNKNOWN);
         Due.is("16 what 2", x.rounds(0, 2), Due.BAD);
@@ -157,7 +157,7 @@ public final class HandsTest {
     }
 
     private static void givesAway() {
-        GloveReply x = Due.desk(FOUR);
+        Counted x = Due.desk(FOUR);
         Due.is("17 plain, 5", x.givesAway(0), 1 + 2 + 8);
         Due.is("17 mitten, 6", x.givesAway(1), 1 + 4 + 8);
         Due.is("17 split, 7", x.givesAway(2), 0);
@@ -175,8 +175,8 @@ public final class HandsTest {
     }
 
     /** A glove that keeps 3, 1, 2 and one that keeps nothing. */
-    private static GloveReply keeping312() {
-        GloveReply x = Due.desk("GP110P210L303L300");
+    private static Counted keeping312() {
+        Counted x = Due.desk("GP110P210L303L300");
         for (int person = 0; person <= 1; person++) {
             x.wear(0, person);
             x.takeOff(0);
@@ -185,7 +185,7 @@ public final class HandsTest {
     }
 
     private static void leftBy() {
-        GloveReply x = keeping312();
+        Counted x = keeping312();
         int[] left = {2, 1, 3, 0};
         for (int n = 0; n <= 3; n++) {
             Due.is("18 leftBy(0, " + n + ")", x.leftBy(0, n), left[n]);
@@ -202,7 +202,7 @@ public final class HandsTest {
     }
 
     private static void washes() {
-        GloveReply x = keeping312();
+        Counted x = keeping312();
         int[] fewest = {3, 1, 0, 2, Due.NONE, Due.NONE, Due.NONE, Due.NONE};
         for (int doing = 0; doing <= 7; doing++) {
             Due.is("19 washes(0, " + doing + ")", x.washes(0, doing), fewest[doing]);
@@ -223,13 +223,13 @@ public final class HandsTest {
     private static void both() {
         for (int one = 0; one <= 7; one++) {
             for (int other = 0; other <= 7; other++) {
-                GloveReply x = Due.desk("GL30" + one + "L21" + other);
+                Counted x = Due.desk("GL30" + one + "L21" + other);
                 Due.is("20 both(0, 1) of " + one + ", " + other, x.both(0, 1), one ^ other);
                 Due.is("20 both(1, 0) of " + one + ", " + other, x.both(1, 0), one ^ other);
                 Due.is("20 both(0, 0) of " + one, x.both(0, 0), 0);
             }
         }
-        GloveReply x = keeping312();
+        Counted x = keeping312();
         x.wear(0, 1);
         Due.is("20 the last ones, of worn ones, too", x.both(0, 1), 2);
         Due.is("20 both(2, 0)", x.both(2, 0), Due.UNKNOWN);
@@ -242,13 +242,13 @@ public final class HandsTest {
     private static void either() {
         for (int one = 0; one <= 7; one++) {
             for (int other = 0; other <= 7; other++) {
-                GloveReply x = Due.desk("GL30" + one + "L21" + other);
+                Counted x = Due.desk("GL30" + one + "L21" + other);
                 int due = one == 0 || other == 0 ? 1 : 0;
                 Due.is("21 either(0, 1) of " + one + ", " + other, x.either(0, 1), due);
                 Due.is("21 either(1, 0) of " + one + ", " + other, x.either(1, 0), due);
             }
         }
-        GloveReply x = keeping312();
+        Counted x = keeping312();
         Due.is("21 one with itself", x.either(0, 0), 0);
         x.wear(0, 1);
         Due.is("21 of worn ones, too", x.either(0, 1), 1);
@@ -259,7 +259,7 @@ public final class HandsTest {
     }
 
     private static void nothingIsChanged() {
-        GloveReply x = Due.desk(FOUR);
+        Counted x = Due.desk(FOUR);
         x.wear(3, 2);
         String before = Due.state(x);
         for (int glove = 0; glove <= 3; glove++) {

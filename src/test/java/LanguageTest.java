@@ -10,7 +10,7 @@ import java.util.List;
 import java.util.Set;
 import java.util.TreeSet;
 
-/** The face of the class, and what LANGUAGE.md says of its text as far as that can be read off it. */
+/** The face of the class, and what LANGUAGE.md rules out as far as that can be read off the class or its text. */
 public final class LanguageTest {
     private static final Path SOURCE = Path.of("src/main/java/GloveReply.java");
 
@@ -24,6 +24,7 @@ public final class LanguageTest {
 
     public static void main(String[] args) throws IOException {
         methods();
+        constants();
         members();
         classesInside();
         source(Files.readString(SOURCE));
@@ -41,88 +42,94 @@ public final class LanguageTest {
                     comma = ",";
                 }
                 found.add(said.append(")").toString());
+                Due.holds("1 " + method + " is of an object", !Modifier.isStatic(method.getModifiers()));
             }
         }
         Due.holds("1 the public methods: " + found, found.equals(new TreeSet<>(METHODS)));
     }
 
-    private static void members() {
+    private static void constants() {
         Due.is("UNKNOWN", GloveReply.UNKNOWN, -1);
         Due.is("BAD", GloveReply.BAD, -2);
         Due.is("LATE", GloveReply.LATE, -3);
         Due.is("FULL", GloveReply.FULL, -4);
         Due.is("NONE", GloveReply.NONE, -9);
-        Set<String> constants = new TreeSet<>();
+        Set<String> found = new TreeSet<>();
         for (Field field : GloveReply.class.getDeclaredFields()) {
             int is = field.getModifiers();
             if (Modifier.isPublic(is)) {
-                constants.add(field.getName());
+                found.add(field.getName());
+                Due.holds("1 " + field + " is a constant", Modifier.isStatic(is) && Modifier.isFinal(is));
+                Due.holds("1 " + field + " is an int", field.getType() == int.class);
             }
-            Due.holds("1 " + field + " is public or private", Modifier.isPublic(is) || Modifier.isPrivate(is));
-            Due.holds("5 " + field + " is final if it is static", !Modifier.isStatic(is) || Modifier.isFinal(is));
         }
-        Due.holds("1 the constants: " + constants,
-            constants.equals(new TreeSet<>(List.of("UNKNOWN", "BAD", "LATE", "FULL", "NONE"))));
-        for (Method method : GloveReply.class.getDeclaredMethods()) {
+        Due.holds("1 the constants: " + found, found.equals(Set.of("UNKNOWN", "BAD", "LATE", "FULL", "NONE")));
+    }
+
+    private static void members() {
+        for (Field field : GloveReply.class.getDeclaredFields()) {
+            int is = field.getModifiers();
+            Due.holds("1 " + field + " is public or private",
+                field.isSynthetic() || Modifier.isPublic(is) || Modifier.isPrivate(is));
+        }
+        Method[] all = GloveReply.class.getDeclaredMethods();
+        for (Method method : all) {
             int is = method.getModifiers();
-            Due.holds("1 " + method + " is public or private", Modifier.isPublic(is) || Modifier.isPrivate(is));
+            Due.holds("1 " + method + " is public or private",
+                method.isSynthetic() || Modifier.isPublic(is) || Modifier.isPrivate(is));
+            boolean ofFace = Arrays.stream(all)
+                .anyMatch(other -> Modifier.isPublic(other.getModifiers()) && other.getName().equals(method.getName()));
+            Due.holds("1 " + method + " has a name of its own", Modifier.isPublic(is) || !ofFace);
         }
         Constructor<?>[] constructors = GloveReply.class.getDeclaredConstructors();
         Due.is("1 constructors", constructors.length, 1);
         Due.is("1 parameters of it", constructors[0].getParameterCount(), 0);
         Due.holds("1 it is public", Modifier.isPublic(constructors[0].getModifiers()));
         Due.holds("1 the class is final", Modifier.isFinal(GloveReply.class.getModifiers()));
+        Due.holds("1 the class is public", Modifier.isPublic(GloveReply.class.getModifiers()));
+        fieldsAndParameters(GloveReply.class);
     }
 
     private static void classesInside() {
-        Set<String> face = new TreeSet<>();
-        METHODS.forEach(said -> face.add(said.substring(said.indexOf(' ') + 1, said.indexOf('('))));
         Class<?>[] inside = GloveReply.class.getDeclaredClasses();
-        Due.holds("11 some twelve classes at most", inside.length <= 12);
+        Due.holds("11 some twelve classes", inside.length <= 14);
         for (Class<?> one : inside) {
-            Due.holds("1 " + one + " is static", Modifier.isStatic(one.getModifiers()));
-            Due.holds("1 " + one + " is not public", !Modifier.isPublic(one.getModifiers()));
-            for (Method method : one.getDeclaredMethods()) {
-                Due.holds("1 " + method + " has a name of its own", !face.contains(method.getName()));
-                Due.holds("11 " + method + " takes seven at most", method.getParameterCount() <= 7);
-            }
+            int is = one.getModifiers();
+            Due.holds("1 " + one + " is static", Modifier.isStatic(is));
+            Due.holds("1 " + one + " is private or package-visible", !Modifier.isPublic(is) && !Modifier.isProtected(is));
+            fieldsAndParameters(one);
         }
-        Method[] all = GloveReply.class.getDeclaredMethods();
-        for (Method method : all) {
+    }
+
+    private static void fieldsAndParameters(Class<?> one) {
+        int ofAnObject = 0;
+        for (Field field : one.getDeclaredFields()) {
+            int is = field.getModifiers();
+            Due.holds("5 " + field + " is final if it is static", !Modifier.isStatic(is) || Modifier.isFinal(is));
+            ofAnObject += Modifier.isStatic(is) ? 0 : 1;
+        }
+        Due.holds("11 some twenty fields in " + one, ofAnObject <= 24);
+        for (Method method : one.getDeclaredMethods()) {
             Due.holds("11 " + method + " takes seven at most", method.getParameterCount() <= 7);
-            long alike = Arrays.stream(all).filter(other -> other.getName().equals(method.getName())).count();
-            Due.is("1 methods named " + method.getName(), alike, 1);
+        }
+        for (Constructor<?> constructor : one.getDeclaredConstructors()) {
+            Due.holds("11 " + constructor + " takes seven at most", constructor.getParameterCount() <= 7);
         }
     }
 
     private static void source(String whole) {
-        String text = whole.replaceAll("(?s)/\\*.*?\\*/", "").replaceAll("//[^\n]*", "");
-        for (String word : List.of("throw", "throws", "try", "catch", "synchronized", "assert", "import", "package",
-            "instanceof", "var", "Object", "Random", "System", "Thread", "Math", "enum", "interface", "equals",
-            "hashCode", "toString", "goto", "while")) {
+        String text = whole.replaceAll("(?s)/\\*.*?\\*/", "").replaceAll("//[^\n]*", "").replaceAll("\"[^\"\n]*\"", "");
+        for (String word : List.of("throw", "throws", "try", "catch", "finally", "synchronized", "assert", "package",
+            "hashCode", "Random", "Thread", "Runtime", "Process", "File", "Files", "Scanner", "Clock", "Instant",
+            "currentTimeMillis", "nanoTime", "getenv", "getProperty", "identityHashCode", "Exception", "Throwable")) {
             Due.holds("no word " + word, !text.matches("(?s).*\\b" + word + "\\b.*"));
         }
-        for (String sign : List.of("->", "::", "@", "\"", "[][]")) {
-            Due.holds("no sign " + sign, !text.contains(sign));
-        }
-        Due.holds("all signs are 1 to 127", whole.chars().allMatch(c -> c > 0 && c < 128));
-        objectsInConstructors(text);
-    }
-
-    /** Whatever is made is made in a constructor: in a method no "new" stands. */
-    private static void objectsInConstructors(String text) {
-        boolean inConstructor = false;
-        int made = 0;
-        for (String line : text.split("\n")) {
-            String bare = line.strip();
-            if (bare.endsWith("{") && bare.contains("(") && !bare.startsWith("for") && !bare.startsWith("if")) {
-                inConstructor = bare.matches("(public )?[A-Z][A-Za-z]*\\(.*");
-            }
-            if (bare.matches(".*\\bnew\\b.*")) {
-                made++;
-                Due.holds("12 made in a constructor: " + bare, inConstructor);
-            }
-        }
-        Due.holds("12 some objects are made", made > 0);
+        Due.holds("4 none whose name ends in Exact", !text.matches("(?s).*\\w+Exact\\b.*"));
+        Due.holds("4 nothing of System but arraycopy", !text.matches("(?s).*\\bSystem\\s*\\.(?!\\s*arraycopy\\b).*"));
+        Due.holds("5 no static initialiser block", !text.matches("(?s).*\\bstatic\\s*\\{.*"));
+        Due.holds("2 no method reference", !text.contains("::"));
+        String behindCases = text.replaceAll("(?s)\\b(case\\b[^:;{}]*?|default\\s*)->", "");
+        Due.holds("2 no lambda", !behindCases.contains("->"));
+        Due.holds("4 all signs are 1 to 127", text.chars().allMatch(c -> c > 0 && c < 128));
     }
 }

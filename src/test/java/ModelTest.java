@@ -6,7 +6,7 @@ public final class ModelTest {
     private static final int[] ODD = {-1, -2, -9, 5, 8, 10, 256, Integer.MAX_VALUE, Integer.MIN_VALUE};
 
     private final Random random;
-    private final GloveReply x = new GloveReply();
+    private final Counted x = new Counted();
     private final NaiveGloves y = new NaiveGloves();
     private int calls = 0;
 

@@ -17,7 +17,7 @@ public final class SeenTest {
     }
 
     private static void see() {
-        GloveReply x = Due.desk(THREE);
+        Counted x = Due.desk(THREE);
         Due.is("22 see(0, 0, 0)", x.see(0, 0, 0), 1);
         Due.is("22 see(3, 2, 7)", x.see(3, 2, 7), 2);
         x.wear(1, 1);
@@ -29,7 +29,7 @@ public final class SeenTest {
     }
 
     private static void seeRefused() {
-        GloveReply x = Due.desk(THREE);
+        Counted x = Due.desk(THREE);
         seeRefused(x, Due.BAD);
         for (int time = 1; time <= 4; time++) {
             x.see(0, 0, 1);
@@ -38,7 +38,7 @@ public final class SeenTest {
         Due.is("22 FULL at last", x.see(0, 0, 7), Due.FULL);
     }
 
-    private static void seeRefused(GloveReply x, int due) {
+    private static void seeRefused(Counted x, int due) {
         int before = x.about(5);
         Due.is("22 see(4, 0, 0)", x.see(4, 0, 0), Due.UNKNOWN);
         Due.is("22 see(-1, 0, 0)", x.see(-1, 0, 0), Due.UNKNOWN);
@@ -51,7 +51,7 @@ public final class SeenTest {
     }
 
     private static void unsee() {
-        GloveReply x = Due.desk(THREE);
+        Counted x = Due.desk(THREE);
         Due.is("23 nothing was seen", x.unsee(), 0);
         x.see(0, 0, 1);
         x.see(0, 1, 6);
@@ -63,7 +63,7 @@ public final class SeenTest {
     }
 
     private static void wore() {
-        GloveReply x = Due.desk(THREE);
+        Counted x = Due.desk(THREE);
         wore(x, 0, 1, 0);
         x.see(0, 0, 3);
         wore(x, 0, 1, 2);
@@ -76,7 +76,7 @@ public final class SeenTest {
         x.unsee();
         x.see(0, 0, 0);
         wore(x, 0, 0, Due.NONE);
-        GloveReply twins = Due.desk("GP110P210P110L300");
+        Counted twins = Due.desk("GP110P210P110L300");
         twins.see(0, 1, 1);
         wore(twins, 0, 2, 1);
         twins.see(0, 1, 1);
@@ -86,7 +86,7 @@ public final class SeenTest {
     }
 
     private static void woreOfMitten() {
-        GloveReply x = Due.desk(THREE);
+        Counted x = Due.desk(THREE);
         x.see(1, 0, 1);
         wore(x, 1, 2, 1);
         x.see(1, 1, 1);
@@ -97,7 +97,7 @@ public final class SeenTest {
 
     /** The split one (two kept) does its first: what lay in it, then what the seen one did. */
     private static void woreOfSplitAndShy() {
-        GloveReply x = Due.desk(THREE);
+        Counted x = Due.desk(THREE);
         x.see(2, 2, 1);
         wore(x, 2, 3, 1);
         x.see(2, 0, 5);
@@ -114,7 +114,7 @@ public final class SeenTest {
     }
 
     private static void woreByFour() {
-        GloveReply x = Due.desk("GP110P110P110P110P110L100");
+        Counted x = Due.desk("GP110P110P110P110P110L100");
         int all = 1;
         int first = 0;
         for (int time = 1; time <= 4; time++) {
@@ -123,7 +123,7 @@ public final class SeenTest {
             first = first * 10 + 1;
             wore(x, 0, all, first);
         }
-        GloveReply y = Due.desk("GP110P210P310P410P510L300");
+        Counted y = Due.desk("GP110P210P310P410P510L300");
         y.see(0, 0, 5);
         y.see(0, 0, 4);
         y.see(0, 0, 3);
@@ -132,7 +132,7 @@ public final class SeenTest {
     }
 
     private static void woreOfThoseThatAreThere() {
-        GloveReply x = Due.desk(THREE);
+        Counted x = Due.desk(THREE);
         x.see(0, 2, 3);
         x.see(0, 0, 5);
         wore(x, 0, 1, 23);
@@ -154,7 +154,7 @@ public final class SeenTest {
         wore(x, 0, 1, 23);
     }
 
-    private static void wore(GloveReply x, int glove, int many, int first) {
+    private static void wore(Counted x, int glove, int many, int first) {
         String before = x.about(4) + " " + x.glove(glove, 3);
         Due.is("24 wore(" + glove + ", 0)", x.wore(glove, 0), many);
         Due.is("24 wore(" + glove + ", 1)", x.wore(glove, 1), first);
@@ -162,7 +162,7 @@ public final class SeenTest {
     }
 
     private static void woreRefused() {
-        GloveReply x = Due.desk(THREE);
+        Counted x = Due.desk(THREE);
         x.see(0, 0, 3);
         Due.is("24 wore(4, 0)", x.wore(4, 0), Due.UNKNOWN);
         Due.is("24 UNKNOWN comes before BAD", x.wore(-1, 2), Due.UNKNOWN);

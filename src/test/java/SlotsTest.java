@@ -13,7 +13,7 @@ public final class SlotsTest {
     }
 
     private static void keepAndAgain() {
-        GloveReply x = Due.desk(TWO);
+        Counted x = Due.desk(TWO);
         x.wear(0, 1);
         x.day();
         x.wear(1, 0);
@@ -38,7 +38,7 @@ public final class SlotsTest {
     }
 
     private static void twoSlots() {
-        GloveReply x = Due.desk(TWO);
+        Counted x = Due.desk(TWO);
         Due.is("29 keep(0)", x.keep(0), 0);
         x.day();
         x.day();
@@ -52,7 +52,7 @@ public final class SlotsTest {
     }
 
     private static void keptAnew() {
-        GloveReply x = Due.desk(TWO);
+        Counted x = Due.desk(TWO);
         x.keep(0);
         x.day();
         Due.is("29 kept over what was kept", x.keep(0), 1);
@@ -61,7 +61,7 @@ public final class SlotsTest {
     }
 
     private static void whatIsNotKept() {
-        GloveReply x = Due.desk(TWO);
+        Counted x = Due.desk(TWO);
         x.see(0, 0, 1);
         x.seed(4L);
         x.keep(1);
@@ -75,7 +75,7 @@ public final class SlotsTest {
     }
 
     private static void refused() {
-        GloveReply x = Due.desk(TWO);
+        Counted x = Due.desk(TWO);
         x.wear(0, 0);
         int[] unknown = {-1, 2, Due.NONE, Integer.MAX_VALUE, Integer.MIN_VALUE};
         for (int slot : unknown) {
@@ -92,7 +92,7 @@ public final class SlotsTest {
     }
 
     private static void ofNobody() {
-        GloveReply x = new GloveReply();
+        Counted x = new Counted();
         Due.is("29 keep(0) of nobody", x.keep(0), 0);
         x.day();
         Due.is("29 keep(1) of nobody", x.keep(1), 1);

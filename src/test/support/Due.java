@@ -1,4 +1,4 @@
-/** Counts the answers that are due and those that are not, and makes desks out of texts. */
+/** Counts the answers that are due and those that are not, makes desks out of texts, reads objects out. */
 final class Due {
     static final int UNKNOWN = -1, BAD = -2, LATE = -3, FULL = -4, NONE = -9;
 
@@ -21,14 +21,18 @@ final class Due {
         is(what, isSo ? 1 : 0, 1);
     }
 
+    static void same(String what, String got, String want) {
+        holds(what + ": " + got + " is " + want, got.equals(want));
+    }
+
     /** A new object whose THE TEXT is the text. */
-    static GloveReply told(String text) {
-        GloveReply x = new GloveReply();
+    static Counted told(String text) {
+        Counted x = new Counted();
         tell(x, text);
         return x;
     }
 
-    static void tell(GloveReply x, String text) {
+    static void tell(Counted x, String text) {
         x.wipe();
         for (int place = 0; place < text.length(); place++) {
             is("write(" + (int) text.charAt(place) + ")", x.write(text.charAt(place)), place + 1);
@@ -36,8 +40,8 @@ final class Due {
     }
 
     /** A new object whose THE DESK is the text. */
-    static GloveReply desk(String text) {
-        GloveReply x = told(text);
+    static Counted desk(String text) {
+        Counted x = told(text);
         is("desk() of " + text, x.desk(), count(text, 'P') * 10 + count(text, 'L'));
         return x;
     }
@@ -52,28 +56,65 @@ final class Due {
         return found;
     }
 
+    /** What the acts change, as one text; some twelve calls. */
+    static String look(Counted x) {
+        StringBuilder all = new StringBuilder();
+        all.append(x.about(2)).append(' ').append(x.about(3)).append(' ').append(x.about(4));
+        int gloves = x.about(1);
+        for (int glove = 0; glove < gloves; glove++) {
+            all.append(' ').append(x.glove(glove, 3)).append('@').append(x.glove(glove, 4));
+        }
+        return all.append(';').toString();
+    }
+
     /** All that can be asked for without a change, as one text: two objects alike tell the same. */
-    static String state(GloveReply x) {
+    static String state(Counted x) {
         StringBuilder all = new StringBuilder();
         for (int what = 0; what <= 6; what++) {
             all.append(x.about(what)).append(' ');
         }
         all.append(x.fault()).append('|');
-        for (int person = 0; person < x.about(0); person++) {
+        int people = x.about(0);
+        for (int person = 0; person < people; person++) {
             for (int what = 0; what <= 3; what++) {
                 all.append(x.person(person, what)).append(' ');
             }
         }
         all.append('|');
-        for (int glove = 0; glove < x.about(1); glove++) {
+        int gloves = x.about(1);
+        for (int glove = 0; glove < gloves; glove++) {
             for (int what = 0; what <= 4; what++) {
                 all.append(x.glove(glove, what)).append(' ');
             }
-            all.append(x.wore(glove, 0)).append(' ').append(x.wore(glove, 1)).append(' ');
         }
         long seed = x.seed(0L);
         x.seed(seed);
-        return all.append('|').append(seed).toString();
+        return all.append('|').append(seed).append('|').append(wearers(x)).toString();
+    }
+
+    private static String wearers(Counted x) {
+        StringBuilder all = new StringBuilder();
+        int gloves = x.about(1);
+        for (int glove = 0; glove < gloves; glove++) {
+            all.append(x.wore(glove, 0)).append(' ').append(x.wore(glove, 1)).append(' ');
+        }
+        return all.toString();
+    }
+
+    /** The state and all that lies behind it (ACTS, SLOTS, THE TEXT, SEEN); the object is used up then. */
+    static String whole(Counted x) {
+        StringBuilder all = new StringBuilder(state(x));
+        all.append("|undone:");
+        int acts = x.about(4);
+        for (int act = 0; act < acts; act++) {
+            all.append(x.undo()).append(' ').append(look(x));
+        }
+        all.append(x.undo());
+        for (int slot = 0; slot <= 1; slot++) {
+            all.append("|slot:").append(x.again(slot)).append(' ').append(look(x));
+        }
+        all.append("|anew:").append(x.desk()).append(' ').append(look(x)).append(wearers(x));
+        return all.append(x.wipe()).toString();
     }
 
     static void close(String test) {
