@@ -105,6 +105,17 @@ public final class DeskBoundsTest {
         fault("each kind has its own figures: d of a GLOVE", "GL109", 4);
         fault("each kind has its own figures: k of a GLOVE", "GL107", Due.NONE);
         fault("each kind has its own figures: k of a GLOVE", "GL170", 3);
+        String[] outside = {"GP0", "GP8", "GP10", "GP18", "GL0", "GL4", "GL14", "GL108"};
+        for (String text : outside) {
+            fault("the first figure outside: " + text, text, text.length() - 1);
+        }
+        for (String text : new String[] {"GP11/", "GP11:", "GP1/", "GL1/", "GL10/", "GL10:", "GL/", "GP/", "GP:"}) {
+            fault("the byte next to the figures: " + text, text, text.length() - 1);
+        }
+        String[] inside = {"GP110", "GP119", "GP711", "GP171", "GL100", "GL300", "GL130", "GL107"};
+        for (String text : inside) {
+            fault("the last figure inside: " + text, text, Due.NONE);
+        }
         fault("a PART within a PART", "GPP111", 2);
         fault("a DESK within a DESK", "GP111GP111", 5);
     }
@@ -235,6 +246,13 @@ public final class DeskBoundsTest {
             "glove(0, 3) = 0", "glove(0, 2) = 0", "wear(0, 0)", "takeOff(0)", "glove(0, 3) = 7", "glove(0, 2) = 1",
             "wear(0, 1)", "takeOff(0)", "glove(0, 3) = 71", "glove(0, 2) = 2", "wear(0, 2)", "takeOff(0)",
             "glove(0, 3) = 714", "glove(0, 2) = 3", "wear(0, 2)", "takeOff(0)", "glove(0, 3) = 144", "glove(0, 2) = 3");
+        for (int own : new int[] {1, 7}) {
+            Script.run("8 as figures: the least ones, the greatest ones", "GP" + own + "10L320", "wear(0, 0) = 0", "takeOff(0) = 1",
+                "glove(0, 3) = " + own, "glove(0, 2) = 1", "wear(0, 0) = " + own, "takeOff(0) = 2", "glove(0, 3) = " + own * 11,
+                "glove(0, 2) = 2", "wear(0, 0) = " + own, "takeOff(0) = 3", "glove(0, 3) = " + own * 111, "glove(0, 2) = 3",
+                "wear(0, 0) = " + own, "takeOff(0) = 3", "glove(0, 3) = " + own * 111, "glove(0, 2) = 3", "leftBy(0, 2) = " + own,
+                "washes(0, 0) = 3");
+        }
         Script.run("8 how many it keeps at most is not how many it keeps", "GP111L303", "glove(0, 0) = 3",
             "glove(0, 2) = 1", "wash(0)", "glove(0, 0) = 3", "glove(0, 2) = 0");
         Script.run("8 who wears it (4; NONE)", "G" + FIVE + FOUR, "glove(3, 4) = NONE", "wear(3, 0)", "glove(3, 4) = 0",

@@ -23,6 +23,7 @@ public final class HandsBoundsTest {
         bothByFigures();
         eitherAlone();
         bothAndEitherRefused();
+        fromWhatItKeepsNow();
         whatElseTheyWear();
         Due.close("HandsBoundsTest");
     }
@@ -272,6 +273,17 @@ public final class HandsBoundsTest {
             Script.run("20, 21 UNKNOWN behind the fourth one", "GL305L103L100L100", call + "(0, 4) = UNKNOWN",
                 call + "(4, 0) = UNKNOWN", call + "(3, 4) = UNKNOWN", call + "(4, 3) = UNKNOWN");
         }
+    }
+
+    /** Not from what was told: 3 there, nothing and 1 at last. */
+    private static void fromWhatItKeepsNow() {
+        Script.run("14 from what it keeps now", "GP110P210P310L103", "does(0, 1, 1) = 3", "comes(0, 3, 0) = 1",
+            "rounds(0, 1) = 123", "givesAway(0) = 3", "lost(0, 0, 3, 0, true) = 1", "wash(0)", "does(0, 1, 1) = 0",
+            "comes(0, 3, 0) = 2", "rounds(0, 0) = 6", "givesAway(0) = 0", "lost(0, 0, 3, 0, true) = 0", "wear(0, 0)",
+            "takeOff(0)", "does(0, 1, 1) = 1", "comes(0, 1, 1) = 1", "comes(0, 3, 1) = 31", "rounds(0, 0) = 4",
+            "rounds(0, 1) = 213", "givesAway(0) = 6", "leftBy(0, 0) = 1", "washes(0, 1) = 0", "washes(0, 3) = NONE",
+            "lost(0, 0, 1, 0, true) = 1", "undo()", "undo()", "undo()", "does(0, 1, 1) = 3", "rounds(0, 1) = 123",
+            "givesAway(0) = 3");
     }
 
     private static void whatElseTheyWear() {
